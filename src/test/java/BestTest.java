@@ -103,6 +103,8 @@ public final class BestTest {
         Check.order(x, 1, "pages daily 7;price pages*10;");
         // 2 at 20: 80 * 20 + 40 - 96 = 1544; 4 at 40: 60 * 40 + 60 - 144 = 2316; 6 at 60: 40 * 60 + 60 - 144 = 2316
         best("of these the fewest pages", 0, 4, 40, 60, 2316);
+        Check.order(x, 1, "pages daily 4;price pages*10;");
+        best("up to just what pages tells", 0, 4, 40, 60, 2316);
         Check.order(x, 1, "pages daily 9;price 99-pages*10;");
         // 2 at 79: 21 * 79 = 1659 + 10 - 24; 4 at 59: 41 * 59 = 2419 + 41 - 98 = 2362; 6 at 39: 61 * 39 = 2379 + 91 - 218;
         best("more pages", 0, 4, 59, 41, 2362);
@@ -116,6 +118,16 @@ public final class BestTest {
         best("a price above 60", 0, 2, 70, 30, 2100 + 15 - 36);
         Check.order(x, 1, "price month*20+stock-1900+used;");
         best("by the month and the stock", 0, 2, 100, 0, 0);
+    }
+
+    private static void twoPagesAlone() {
+        board();
+        x.reel(2000, 0);
+        x.months(1);
+        Check.order(x, 1, "pages daily 2;");
+        best("two pages alone", 0, 2, 50, 50, 2465);
+        Check.order(x, 1, "pages daily 3;");
+        best("two pages alone", 0, 2, 50, 50, 2465);
     }
 
     private static void copiesMayBeAboveAThousand() {
@@ -136,6 +148,7 @@ public final class BestTest {
         stockAndRight();
         aRightCounts();
         pagesAndPrices();
+        twoPagesAlone();
         copiesMayBeAboveAThousand();
         Check.end("BestTest");
     }

@@ -18,13 +18,19 @@ final class Check {
         }
     }
 
-    /** The call throws this exception, and no other one. */
+    /** Whether the program threw this itself, by a throw of its own, and not the machine or the library in it. */
+    static boolean isItsOwn(RuntimeException e) {
+        StackTraceElement[] calls = e.getStackTrace();
+        return calls.length == 0 || calls[0].getClassName().startsWith("PaperBoard");
+    }
+
+    /** The call throws this exception, by a throw of the program's own, and no other one. */
     static void refuses(String call, Class<? extends RuntimeException> due, Call made) {
         String got;
         try {
             got = "answered " + made.answer();
         } catch (RuntimeException e) {
-            if (e.getClass() == due) {
+            if (e.getClass() == due && isItsOwn(e)) {
                 return;
             }
             got = "threw " + e;

@@ -108,6 +108,24 @@ public final class MergersTest {
         told("one that is gone stays so", 1, 1, 0, 0, 20, 21, 6, 0, 0, 0, 2, 996);
     }
 
+    /** Every reel of the second one goes along, the first of all, too, and of nobody else. */
+    private static void reelsThatMove() {
+        x = new PaperBoard();
+        x.paper(0, 10, 0, 2, 1);
+        x.paper(0, 20, 0, 2, 1);
+        x.paper(0, 10, 0, 2, 1);
+        for (int i = 0; i < 4; i++) x.reel(10, 0);
+        x.months(1);
+        x.reel(10, 0);
+        x.reel(10, 0);
+        x.steal(5);
+        int[] before = {1, 0, 1, 2, -1, -2};
+        for (int i = 0; i < 6; i++) Check.is("where(" + i + ")", x.where(i), before[i]);
+        x.merge(2, 1);
+        int[] behind = {2, 0, 2, 2, -1, -2};
+        for (int i = 0; i < 6; i++) Check.is("where(" + i + ")", x.where(i), behind[i]);
+    }
+
     private static void gains() {
         x = new PaperBoard();
         x.paper(0, 60000, 600, 10, 11);
@@ -177,6 +195,7 @@ public final class MergersTest {
     public static void main(String[] args) {
         swaps();
         whatAMergerMoves();
+        reelsThatMove();
         gains();
         gainByStock();
         Check.end("MergersTest");

@@ -29,6 +29,7 @@ public final class OrdersTest {
         Check.sound("part10;fine10;");
         Check.sound("part(1);part min(1,2);part max((1),2);part if(1<2,3,4);part if(1>2,3,4);part if ( 1 = 2 , 3 , 4 );");
         Check.sound("part 9999;fine 0009999;pages weekly 064;pages party 2;swap 0;swap 100;waste 0;waste 100;least 9999;new 9999;");
+        Check.sound("fine 9999;least 0;new 0;fine 0;part 0;");
         Check.sound("rest most;rest keep;way base;way points;way alike;way bids;price 0;");
         Check.sound("part ((((((((1))))))))+((((((((1))))))));");
         Check.sound("new 1;new 1;new 1;new 1;new 1;new 1;new 1;new 1;new 1;new 1;new 1;new 1; ");
@@ -41,6 +42,9 @@ public final class OrdersTest {
         Check.faulty("  ;", 1, 2);
         Check.faulty("new 1;;", 1, 6);
         Check.faulty("partbase;", 1, 0);
+        Check.faulty("partz 1;", 1, 0);
+        Check.faulty("zpart 1;", 1, 0);
+        Check.faulty("parta 1;", 1, 0);
         Check.faulty("part basecopies;", 1, 5);
         Check.faulty("part most;", 1, 5);
         Check.faulty("part 1 2;", 1, 7);
@@ -100,6 +104,12 @@ public final class OrdersTest {
         Check.faulty("part min(max(if(((((( (1", 3, 22);
         Check.faulty("part ((((((((1))))))))+(((((((( min(1", 3, 35);
         Check.faulty("part ((((((((1(", 1, 14);
+        String seven = "part (((((((";
+        for (String eighth : new String[] {"(", "min(", "min(1,", "max(", "max(1,", "if(", "if(1<", "if(1<2,", "if(1<2,3,"}) {
+            Check.faulty(seven + eighth + "(1", 3, 12 + eighth.length());
+            Check.faulty(seven + eighth + "min(1", 3, 15 + eighth.length());
+            Check.faulty(seven.substring(0, 11) + eighth + "(1;", 1, 13 + eighth.length());
+        }
         Check.faulty("part ((((((((min 1", 1, 17);
     }
 

@@ -77,6 +77,20 @@ public final class RowsTest {
         rows("as known later", 0, 0, 600, 50, 0, 70, 0);
     }
 
+    private static void ofTheRowItself() {
+        x = new PaperBoard();
+        x.paper(0, 300, 0, 10, 20);
+        x.paper(0, 300, 0, 10, 20);
+        x.months(3);
+        x.correct(1, 2, 12);
+        x.correct(0, 1, 1);
+        x.correct(1, 1, 11);
+        int[][] due = {{0, 1, 0}, {0, 11, 12}};
+        for (int p = 0; p < 2; p++) {
+            for (int m = 0; m < 3; m++) Check.is("used of " + p + " in " + m, x.row(p, m, 1, 3), due[p][m]);
+        }
+    }
+
     /** What is used by the value of an order is what was used, not what is told anew. */
     private static void nothingElseChanges() {
         x = new PaperBoard();
@@ -103,6 +117,7 @@ public final class RowsTest {
     public static void main(String[] args) {
         rowsOfMonths();
         toldAnew();
+        ofTheRowItself();
         nothingElseChanges();
         sixtyTimes();
         Check.end("RowsTest");

@@ -69,7 +69,7 @@ public final class StrangeCallsTest {
             try {
                 call(which);
             } catch (RuntimeException e) {
-                if (!isNamed(which, e)) Check.fails("seed " + seed + ", call " + which + " threw " + e);
+                if (!isNamed(which, e) || !Check.isItsOwn(e)) Check.fails("seed " + seed + ", call " + which + " threw " + e);
             }
         }
     }
