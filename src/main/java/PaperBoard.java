@@ -1049,6 +1049,7 @@ public final class PaperBoard {
             behind = 0;
             fault = 0;
             place = NONE;
+            codes = 0;
             Order order = new Order(month);
             next();
             for (int clause = 0; clause <= MOST_CLAUSES && sign != END && fault == 0; clause++) {
@@ -1181,9 +1182,9 @@ public final class PaperBoard {
             }
             next();
             switch (which) {
-                case 0: order.part = takeFormula(); break;
+                case 0: readSum(0); order.part = formula(); break;
                 case 1: readPages(order, clause); break;
-                case 2: order.price = takeFormula(); order.priceClause = clause; break;
+                case 2: readSum(0); order.price = formula(); order.priceClause = clause; break;
                 case 3: order.fine = takeNumber(0, MOST_NUMBER); break;
                 case 4: order.newcomers = takeNumber(0, MOST_NUMBER); break;
                 case 5: order.swapped = takeNumber(0, 100); break;
@@ -1200,10 +1201,11 @@ public final class PaperBoard {
             order.tellPages(kind, most, clause);
         }
 
-        private int[] takeFormula() {
+        /** The formula that was read, which makes place for another one. */
+        private int[] formula() {
+            int length = within(codes, 0, code.length) ? codes : 0;
             codes = 0;
-            readSum(0);
-            return Arrays.copyOf(code, within(codes, 0, code.length) ? codes : 0);
+            return Arrays.copyOf(code, length);
         }
 
         private void emit(int what) {
@@ -1475,7 +1477,7 @@ public final class PaperBoard {
                         greatest = rest[i];
                     }
                 }
-                if (next < 0) {
+                if (next < 0 || next >= MAX_PAPERS) {
                     return;
                 }
                 share[next]++;

@@ -96,6 +96,20 @@ public final class BreachesTest {
         breach("used in the month ahead", 0, 1, 3, 2, 2, 0);
     }
 
+    private static void justAsManyPagesAreNoBreach() {
+        x = new PaperBoard();
+        x.paper(0, 100, 10, 10, 20);
+        x.paper(0, 100, 10, 11, 20);
+        x.reel(1000, 0);
+        x.reel(1000, 0);
+        Check.order(x, 0, "pages daily 10;price 21;fine 5;");
+        x.months(1);
+        breach("just as many", 0, 1, 0, 2, 0, 1);
+        breach("one more", 1, 2, 0, 3, 0, 0);
+        coins("just as many", 0, -5);
+        coins("one more", 1, -10);
+    }
+
     private static void thePriceIsBounded() {
         x = new PaperBoard();
         x.paper(0, 100, 10, 10, 1);
@@ -113,6 +127,7 @@ public final class BreachesTest {
         oneAndBoth();
         onlyWhoPrinted();
         whatThePriceGoesBy();
+        justAsManyPagesAreNoBreach();
         thePriceIsBounded();
         Check.end("BreachesTest");
     }

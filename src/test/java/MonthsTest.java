@@ -80,6 +80,20 @@ public final class MonthsTest {
         told("right", 2, 8, 40);
     }
 
+    private static void aRightOfOne() {
+        x = new PaperBoard();
+        x.paper(0, 100, 0, 2, 1);
+        x.reel(1, 0);
+        x.reel(1, 0);
+        Check.order(x, 0, "way bids;");
+        x.months(1);
+        x.bid(0, 1, 1);
+        Check.is("a bid for one", x.parted(0, 3), 1);
+        x.months(1);
+        Check.is("a right of 1", x.where(0), 0);
+        Check.is("a right of 0", x.where(1), -1);
+    }
+
     /** Nobody with a right above 0: reels stay. */
     private static void reelsThatStay() {
         x = new PaperBoard();
@@ -201,6 +215,7 @@ public final class MonthsTest {
         theQueue();
         eachMonthItsOrder();
         rights();
+        aRightOfOne();
         reelsThatStay();
         bidsAreOverByAnyWay();
         printing();

@@ -135,6 +135,8 @@ public final class OrdersTest {
         x = new PaperBoard();
         Check.order(x, 5, "new 1;");
         Check.order(x, 3, "new 2;");
+        Check.is("the later month, not the later number", x.force(5), 0);
+        Check.is("the later month, not the later number", x.force(4), 1);
         Check.order(x, 5, "new 3;");
         Check.order(x, 600, "new 4;");
         int[][] due = {{0, -1}, {2, -1}, {3, 1}, {4, 1}, {5, 2}, {6, 2}, {599, 2}, {600, 3}};
