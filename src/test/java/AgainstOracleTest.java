@@ -1,4 +1,6 @@
+import java.lang.reflect.InvocationTargetException;
 import java.util.ArrayList;
+import java.util.Arrays;
 import java.util.List;
 import java.util.Random;
 
@@ -150,7 +152,7 @@ public final class AgainstOracleTest {
             case "count": a = v(n(0, 11)); break;
             default: order(); return;
         }
-        StringBuilder told = new StringBuilder(name).append(java.util.Arrays.toString(a));
+        StringBuilder told = new StringBuilder(name).append(Arrays.toString(a));
         say(told.toString(), answer(() -> onBoard(name, a)), answer(() -> onOracle(name, a)));
     }
 
@@ -179,80 +181,24 @@ public final class AgainstOracleTest {
     }
 
     private int onBoard(String name, int[] a) {
-        PaperBoard x = board;
-        switch (name) {
-            case "paper": return x.paper(a[0], a[1], a[2], a[3], a[4]);
-            case "set": return x.set(a[0], a[1], a[2]);
-            case "told": return x.told(a[0], a[1]);
-            case "reel": return x.reel(a[0], a[1]);
-            case "where": return x.where(a[0]);
-            case "steal": return x.steal(a[0]);
-            case "find": return x.find(a[0]);
-            case "ward": return x.ward(a[0]);
-            case "loyal": return x.loyal(a[0], a[1], a[2]);
-            case "demand": return x.demand(a[0], a[1]);
-            case "feed": return x.feed(a[0], a[1], a[2], a[3], a[4]);
-            case "order": return x.order(a[0], a[1]);
-            case "fault": return x.fault();
-            case "force": return x.force(a[0]);
-            case "tells": return x.tells(a[0], a[1]);
-            case "bid": return x.bid(a[0], a[1], a[2]);
-            case "parted": return x.parted(a[0], a[1]);
-            case "months": return x.months(a[0]);
-            case "swap": return x.swap(a[0], a[1], a[2]);
-            case "netted": return x.netted(a[0], a[1]);
-            case "merge": return x.merge(a[0], a[1]);
-            case "gain": return x.gain(a[0], a[1]);
-            case "breach": return x.breach(a[0], a[1]);
-            case "source": return x.source(a[0], a[1], a[2]);
-            case "borne": return x.borne(a[0], a[1]);
-            case "appeal": return x.appeal(a[0], a[1]);
-            case "alike": return x.alike(a[0]);
-            case "apart": return x.apart(a[0], a[1]);
-            case "grant": return x.grant(a[0], a[1]);
-            case "best": return x.best(a[0], a[1]);
-            case "correct": return x.correct(a[0], a[1], a[2]);
-            case "row": return x.row(a[0], a[1], a[2], a[3]);
-            default: return x.count(a[0]);
-        }
+        return made(board, name, a);
     }
 
     private int onOracle(String name, int[] a) {
-        Oracle x = oracle;
-        switch (name) {
-            case "paper": return x.paper(a[0], a[1], a[2], a[3], a[4]);
-            case "set": return x.set(a[0], a[1], a[2]);
-            case "told": return x.told(a[0], a[1]);
-            case "reel": return x.reel(a[0], a[1]);
-            case "where": return x.where(a[0]);
-            case "steal": return x.steal(a[0]);
-            case "find": return x.find(a[0]);
-            case "ward": return x.ward(a[0]);
-            case "loyal": return x.loyal(a[0], a[1], a[2]);
-            case "demand": return x.demand(a[0], a[1]);
-            case "feed": return x.feed(a[0], a[1], a[2], a[3], a[4]);
-            case "order": return x.order(a[0], a[1]);
-            case "fault": return x.fault();
-            case "force": return x.force(a[0]);
-            case "tells": return x.tells(a[0], a[1]);
-            case "bid": return x.bid(a[0], a[1], a[2]);
-            case "parted": return x.parted(a[0], a[1]);
-            case "months": return x.months(a[0]);
-            case "swap": return x.swap(a[0], a[1], a[2]);
-            case "netted": return x.netted(a[0], a[1]);
-            case "merge": return x.merge(a[0], a[1]);
-            case "gain": return x.gain(a[0], a[1]);
-            case "breach": return x.breach(a[0], a[1]);
-            case "source": return x.source(a[0], a[1], a[2]);
-            case "borne": return x.borne(a[0], a[1]);
-            case "appeal": return x.appeal(a[0], a[1]);
-            case "alike": return x.alike(a[0]);
-            case "apart": return x.apart(a[0], a[1]);
-            case "grant": return x.grant(a[0], a[1]);
-            case "best": return x.best(a[0], a[1]);
-            case "correct": return x.correct(a[0], a[1], a[2]);
-            case "row": return x.row(a[0], a[1], a[2], a[3]);
-            default: return x.count(a[0]);
+        return made(oracle, name, a);
+    }
+
+    /** The answer of the method of this name, or what it throws. */
+    private static int made(Object on, String name, int[] numbers) {
+        Class<?>[] types = new Class<?>[numbers.length];
+        Arrays.fill(types, int.class);
+        Object[] boxed = Arrays.stream(numbers).boxed().toArray();
+        try {
+            return (Integer) on.getClass().getDeclaredMethod(name, types).invoke(on, boxed);
+        } catch (InvocationTargetException e) {
+            throw (RuntimeException) e.getCause();
+        } catch (ReflectiveOperationException e) {
+            throw new AssertionError(e);
         }
     }
 
@@ -276,7 +222,7 @@ public final class AgainstOracleTest {
     }
 
     private void look(String name, int... a) {
-        say(name + java.util.Arrays.toString(a), answer(() -> onBoard(name, a)), answer(() -> onOracle(name, a)));
+        say(name + Arrays.toString(a), answer(() -> onBoard(name, a)), answer(() -> onOracle(name, a)));
     }
 
     private void run(int calls) {
