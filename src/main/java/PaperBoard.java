@@ -192,13 +192,14 @@ public final class PaperBoard {
 
     public int order(int month, int n) throws IllegalArgumentException {
         need(within(month, 0, MAX_MONTH) && within(n, 0, reader.taped));
-        reader.taped = 0;
+        reader.empty();
+        // Of an order for which there is no room no text is looked at, so it has no fault either.
+        if (orders.size() >= MAX_ORDERS) {
+            return NONE;
+        }
         Order read = reader.read(month, n);
         if (read == null) {
             return reader.fault - 10;
-        }
-        if (orders.size() >= MAX_ORDERS) {
-            return NONE;
         }
         orders.add(read);
         return orders.size() - 1;
@@ -1043,12 +1044,17 @@ public final class PaperBoard {
             }
         }
 
-        /** The order that the first bytes of the tape are; null if there is a fault. */
+        /** Empties the tape, whose bytes can still be read; of the text that was read last nothing is known any more. */
+        void empty() {
+            taped = 0;
+            fault = 0;
+            place = NONE;
+        }
+
+        /** The order that the first bytes of the tape were, ahead of empty(); null if there is a fault. */
         Order read(int month, int bytes) {
             size = bytes;
             behind = 0;
-            fault = 0;
-            place = NONE;
             codes = 0;
             Order order = new Order(month);
             next();

@@ -267,6 +267,7 @@ final class Oracle {
         for (int i = 0; i < n; i++) text.append((char) (int) tape.get(i));
         tape.clear();
         faultAt = -1;
+        if (orders.size() == 10) return -1;
         O o;
         try {
             o = new Parse(text.toString()).order();
@@ -274,7 +275,6 @@ final class Oracle {
             faultAt = f.place;
             return f.kind - 10;
         }
-        if (orders.size() == 10) return -1;
         o.month = m;
         orders.add(o);
         return orders.size() - 1;

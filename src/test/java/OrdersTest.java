@@ -129,6 +129,31 @@ public final class OrdersTest {
         Check.is("its fault", x.fault(), PaperBoard.NONE);
         Check.is("its bytes", x.count(10), 0);
         Check.is("orders", x.count(6), 10);
+        tenOrdersAndNoRoomForFaults();
+    }
+
+    private static void tenOrdersAndNoRoomForFaults() {
+        for (String text : new String[] {"", "x", "new 1", "new 10000;", "part (((((((((1)))))))));", ";"}) {
+            Check.is("an 11th: " + text, Check.order(x, 3, text), -1);
+            Check.is("its fault: " + text, x.fault(), PaperBoard.NONE);
+            Check.is("its bytes: " + text, x.count(10), 0);
+        }
+        Check.tape(x, "new;");
+        Check.noNumber("month 601", () -> x.order(601, 4));
+        Check.noNumber("more than the tape", () -> x.order(0, 21));
+        Check.is("the bytes that stay", x.count(10), 20);
+        Check.is("an 11th", x.order(0, 4), -1);
+        Check.is("the bytes", x.count(10), 0);
+        Check.is("orders", x.count(6), 10);
+        Check.is("the latest one in force", x.force(600), 9);
+        x = new PaperBoard();
+        for (int i = 0; i < 9; i++) Check.order(x, 0, "");
+        Check.is("a fault of nine", Check.order(x, 0, "new;"), -9);
+        Check.is("its place", x.fault(), 3);
+        Check.is("a tenth", Check.order(x, 0, ""), 9);
+        Check.is("its fault", x.fault(), PaperBoard.NONE);
+        Check.is("an 11th", Check.order(x, 0, "new;"), -1);
+        Check.is("its fault", x.fault(), PaperBoard.NONE);
     }
 
     private static void inForce() {
