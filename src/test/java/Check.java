@@ -1,11 +1,20 @@
+import java.io.IOException;
+import java.io.UncheckedIOException;
 import java.nio.charset.StandardCharsets;
+import java.nio.file.Files;
+import java.nio.file.Path;
 
 /** What the tests share: they say what is wrong, and end with exit code 1 if something was. */
 final class Check {
     private static int wrong = 0;
+    private static String document = "";
 
     interface Call {
         int answer();
+    }
+
+    interface CallOf {
+        int answer(int number);
     }
 
     private Check() {
@@ -49,6 +58,60 @@ final class Check {
 
     static void noState(String call, Call made) {
         refuses(call, IllegalStateException.class, made);
+    }
+
+    /** The call takes the least and the most number; one beyond them, and the ends of all numbers, are none such. */
+    static void bounded(String call, int least, int most, CallOf made) {
+        takes(call + " of " + least, () -> made.answer(least));
+        takes(call + " of " + most, () -> made.answer(most));
+        for (int v : new int[] {least - 1, most + 1, Integer.MIN_VALUE, Integer.MAX_VALUE}) {
+            noNumber(call + " of " + v, () -> made.answer(v));
+        }
+    }
+
+    /** The call throws nothing. */
+    static void takes(String call, Call made) {
+        try {
+            made.answer();
+        } catch (RuntimeException e) {
+            fails(call + " threw " + e);
+        }
+    }
+
+    /** There are so many: the first and the last are taken; one beyond them, and the ends of all numbers, are none. */
+    static void indexed(String call, int many, CallOf made) {
+        if (many > 0) {
+            takes(call + " of 0", () -> made.answer(0));
+            takes(call + " of " + (many - 1), () -> made.answer(many - 1));
+        }
+        for (int v : new int[] {-1, many, Integer.MIN_VALUE, Integer.MAX_VALUE}) {
+            noIndex(call + " of " + v, () -> made.answer(v));
+        }
+    }
+
+    /** A test of its own for words of the document. If they don't stand there just so, it is said, but that isn't wrong:
+     *  the document is not the program's to keep as it is. */
+    static void words(String quote, Runnable test) {
+        int before = wrong;
+        if (!document().contains(quote)) {
+            System.out.println("  the document doesn't say any more: " + quote);
+        }
+        test.run();
+        if (wrong != before) {
+            System.out.println("  which tests: " + quote);
+        }
+    }
+
+    /** The document, each gap between its words one blank. */
+    private static String document() {
+        if (document.isEmpty()) {
+            try {
+                document = Files.readString(Path.of("../shared/DOC.md")).replaceAll("\\s+", " ");
+            } catch (IOException e) {
+                throw new UncheckedIOException(e);
+            }
+        }
+        return document;
     }
 
     static void fails(String what) {
