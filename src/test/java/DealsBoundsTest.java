@@ -198,6 +198,30 @@ public final class DealsBoundsTest {
         for (int p = 0; p < 3; p += 2) for (int w = 6; w <= 8; w++) told("of one that is gone", p, w, 0);
     }
 
+    /** What a merger doesn't name stays with each of the two. */
+    private static void whatStaysWithEach() {
+        Check.words("the second is GONE (with all these 0)", () -> {
+            x = new PaperBoard();
+            x.paper(0, 1, 1, 2, 50);
+            x.paper(0, 1, 1, 3, 51);
+            Check.order(x, 0, "pages daily 2;price 50;");
+            x.source(0, 1, 2);
+            x.source(1, 3, 4);
+            x.source(1, 4, 5);
+            x.months(1);
+            x.bid(1, 100, 5);
+            x.reel(100, 0);
+            x.merge(0, 1);
+            int[][] due = {{0, -1, 0, -1, -1}, {2, 0, 3, 0, 0}};
+            for (int p = 0; p < 2; p++) for (int w = 0; w <= 4; w++) Check.is("breach(" + p + ", " + w + ")", x.breach(p, w), due[p][w]);
+            Check.is("borne by the first one's", x.borne(0, 2), 1);
+            Check.is("borne by the second one's", x.borne(1, 2), 2);
+            Check.is("its bid is nobody's", x.parted(0, 3), 0);
+            told("the first one's pages", 0, 3, 2);
+            told("the first one's price", 0, 4, 50);
+        });
+    }
+
     private static void gains() {
         Check.words("what the first would have of the POOL now, if PARTED behind it, less what both would have, if PARTED as they are", () -> {
             x = Boards.admitted(60000, 60000, 80000);
@@ -288,6 +312,7 @@ public final class DealsBoundsTest {
     public static void main(String[] args) {
         swapping();
         merging();
+        whatStaysWithEach();
         gains();
         thefts();
         Check.end("DealsBoundsTest");

@@ -182,6 +182,16 @@ public final class JudgementsBoundsTest {
                 told("that of another one", 1, 1, 1);
             }
         });
+        Check.words("when that MONTH begins to go by (ahead of (a)) BASE is what was asked", () -> {
+            x = Boards.admitted(1, 30);
+            x.appeal(0, 70);
+            x.grant(0, 1);
+            x.months(1);
+            x.merge(0, 1);
+            told("and what the other one had", 0, 1, 100);
+            x.months(3);
+            told("it is so once, not in each month behind it", 0, 1, 100);
+        });
         Check.words("if the PAPER is still ADMITTED then", () -> {
             x = Boards.admitted(1, 1);
             x.appeal(1, 70);

@@ -119,6 +119,9 @@ public final class OrdersBoundsTest {
             Check.faulty("rest mos;", 1, 5);
             Check.faulty("New 1;", 1, 0);
             Check.faulty("neW 1;", 1, 0);
+            Check.faulty("newW 1;", 1, 3);
+            Check.faulty("part baseZ;", 1, 9);
+            Check.faulty("part baseA;", 1, 9);
             Check.faulty("pages dailyweekly 9;", 1, 6);
             // The bytes next to the letters and the digits, and letters with the highest bit.
             Check.faulty("new`1;", 1, 3);

@@ -86,8 +86,15 @@ public final class PartingBoundsTest {
             bid(1, 1, 0);
             parted("one bids the least", 3, 0, 1);
             Check.is("of one that isn't admitted", x.paper(0, 1, 0, 2, 1) + x.parted(2, 3), 2);
+            Check.order(x, 1, "way bids;least 50;");
+            parted("by bids there is no least", -1, 0, 1);
+            x.bid(0, 100, 1);
+            parted("by bids there is no least", -1, 100, 0);
+            x.bid(0, 99, 1);
+            parted("by bids there is no least", -1, 99, 1);
+            x.bid(0, 1, 0);
             Check.is("a bid of one that isn't admitted", x.bid(2, 5, 5), -1);
-            parted("that bid is none", 3, 0, 1, 0);
+            parted("that bid is none", 3, 1, 1, 0);
         });
         Check.words("A bid (another one, if there was one): 1; -1: it is not ADMITTED.", () -> {
             x = Boards.admitted(1, 1, 1);

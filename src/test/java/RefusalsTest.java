@@ -197,6 +197,10 @@ public final class RefusalsTest {
         for (int i = 0; i < 5; i++) x.ward(1);
         for (int i = 0; i < 8; i++) x.source(0, 1, 1);
         Check.noNumber("a 13th paper of no kind", () -> x.paper(3, 1, 1, 2, 1));
+        Check.noNumber("a 13th paper of no base", () -> x.paper(0, -1, 1, 2, 1));
+        Check.noNumber("a 13th paper of no copies", () -> x.paper(0, 1, 1001, 2, 1));
+        Check.noNumber("a 13th paper of no pages", () -> x.paper(0, 1, 1, 65, 1));
+        Check.noNumber("a 13th paper of no price", () -> x.paper(0, 1, 1, 2, 0));
         Check.noNumber("an 81st reel of no weight", () -> x.reel(0, 0));
         Check.noNumber("a 6th ward", () -> x.ward(-1));
         Check.noNumber("a 9th source", () -> x.source(0, 2, 1));
@@ -279,6 +283,30 @@ public final class RefusalsTest {
         Check.is("by one that tells none", x.tells(0, 2), PaperBoard.NONE);
         Check.order(x, 0, "price 0-1;");
         Check.is("-1 is no NONE", x.tells(0, 2), 1);
+    }
+
+    /** What the document doesn't refuse to one that is gone. */
+    private static void whatOneThatIsGoneMayStill() {
+        x = Boards.admitted(1, 1);
+        x.ward(1000);
+        x.appeal(1, 50);
+        x.source(1, 3, 4);
+        Check.order(x, 0, "part base+7;fine 3;price 9;");
+        x.merge(0, 1);
+        Check.is("source", x.source(1, 3, 5), 2);
+        Check.is("borne", x.borne(1, 1), 4);
+        Check.is("loyal", x.loyal(0, 1, 100), 0);
+        Check.is("demand", x.demand(1, 1), 990);
+        Check.is("tells", x.tells(1, 0), 7);
+        Check.is("tells", x.tells(1, 2), 9);
+        Check.is("tells", x.tells(1, 3), 3);
+        Check.is("grant", x.grant(0, 1), 1);
+        Check.is("row", x.row(1, 0, 1, 1), 0);
+        Check.is("correct", x.correct(1, 0, 77), 1);
+        Check.is("row", x.row(1, 0, 1, 1), 77);
+        x.months(1);
+        Check.is("its base", x.told(1, 1), 0);
+        Check.is("no row of a month in which it was gone", x.correct(1, 1, 77), -1);
     }
 
     // ---- a refused call changes nothing
@@ -553,6 +581,7 @@ public final class RefusalsTest {
         Check.words("10 USED in the MONTH ahead (of one that is GONE: in its last)", RefusalsTest::usedInItsLastMonth);
         Check.words("The APPEAL that is ALIKE; NONE.", RefusalsTest::nothingIsAlike);
         Check.words("2 the VALUE of price (NONE: none; 0 and 2 within their bounds)", RefusalsTest::noPrice);
+        whatOneThatIsGoneMayStill();
         whatIsAnsweredChangesNothing();
         whatIsAskedChangesNothing();
         whatThrowsChangesNothing();
